@@ -244,6 +244,9 @@ public final class PromiseTest {
         due("one use against two", x.next(0), 2);
         reads(x, 7);
         due("a coming starts at none", x.next(0), 2);
+        x = full(4, 2);
+        reads(x, 0, 0, 1, 5, 5);
+        due("uses before it came do not count", x.next(0), 1);
     }
 
     private static void rule5() {
@@ -296,6 +299,10 @@ public final class PromiseTest {
         due("one way", x.next(0), 0);
         reads(x, 8);
         due("it goes", linesOf(x, 0), "8");
+        x = full(6, 2);
+        due("two ways", x.next(0), 0);
+        reads(x, 0);
+        due("the other of two", x.next(0), 1);
         x = full(6, 8);
         reads(x, 0, 4, 2, 6);
         due("eight", x.next(0), 1);
@@ -468,6 +475,12 @@ public final class PromiseTest {
         due("ways", x.way(0, 0, 3) + x.way(1, 0, 3), 0);
         due("writes", x.count(7), 7);
         due("again", x.cleanAll(), 0);
+        CacheRules rows = new CacheRules(0, 1, 0, 2);
+        rows.access(1, 0, true);
+        rows.access(2, 0, true);
+        rows.access(3, 0, true);
+        due("every row too", rows.cleanAll(), 3);
+        due("rows are clean", caughtLines(rows), "1:1:0 2:1:0");
     }
 
     private static void drop() {
