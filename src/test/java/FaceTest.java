@@ -12,7 +12,7 @@ import java.util.regex.Matcher;
 import java.util.regex.Pattern;
 
 /** The public face is the document's and no more, and the source keeps to LANGUAGE.md where words show it. */
-public final class FaceTest {
+public final class FaceTest extends Checks {
     private static final String[] METHODS = {
         "int mode(boolean, boolean)",
         "int access(int, int, boolean) throws java.lang.IndexOutOfBoundsException",
@@ -32,15 +32,6 @@ public final class FaceTest {
     };
     private static final Pattern FORBIDDEN = Pattern.compile(
         "->|::|\\bcatch *\\(|\\bfinally\\b|\\bsynchronized\\b|\\bassert\\b|Exact\\b|\\bdouble\\b|\\bfloat\\b|\\bpackage [a-z]");
-
-    private static int wrong = 0;
-
-    private static void due(String what, Object got, Object want) {
-        if (!want.equals(got)) {
-            wrong++;
-            System.out.println(what + " is " + got + ", due is " + want);
-        }
-    }
 
     private static String names(Class<?>[] classes) {
         StringBuilder text = new StringBuilder();
@@ -104,6 +95,7 @@ public final class FaceTest {
     }
 
     public static void main(String[] args) throws IOException {
+        about = "the face";
         due("the class", CacheRules.class.getModifiers(), Modifier.PUBLIC | Modifier.FINAL);
         Constructor<?>[] made = CacheRules.class.getDeclaredConstructors();
         due("constructors", made.length, 1);
@@ -112,9 +104,6 @@ public final class FaceTest {
         methods();
         fields();
         source(args.length > 0 ? args[0] : "src/main/java/CacheRules.java");
-        System.out.println(wrong == 0 ? "the face is as due" : wrong + " things are not as due");
-        if (wrong != 0) {
-            System.exit(1);
-        }
+        end();
     }
 }

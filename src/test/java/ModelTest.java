@@ -6,7 +6,7 @@ import java.util.NoSuchElementException;
 import java.util.Random;
 
 /** Runs of 512 calls drawn from fixed seeds, each answer compared with a slow model of the document. */
-public final class ModelTest {
+public final class ModelTest extends Checks {
     private static final class Held {
         final int line;
         final boolean[] there = new boolean[4];
@@ -496,7 +496,6 @@ public final class ModelTest {
         }
     }
 
-    private static int wrong = 0;
     private static CacheRules real;
     private static Model model;
 
@@ -556,13 +555,8 @@ public final class ModelTest {
     private static void compare(String run, String name, int a, int b, int c) {
         String want = call(true, name, a, b, c);
         String got = call(false, name, a, b, c);
-        if (!want.equals(got)) {
-            wrong++;
-            if (wrong <= 20) {
-                System.out.println(run + ": " + name + "(" + a + ", " + b + ", " + c + ") answered " + got
-                    + ", due is " + want);
-            }
-        }
+        about = run;
+        due(name + "(" + a + ", " + b + ", " + c + ")", got, want);
     }
 
     /** Everything that can be looked at. */
@@ -649,12 +643,10 @@ public final class ModelTest {
     }
 
     public static void main(String[] args) {
-        for (long seed = 0; seed < 3000; seed++) {
+        // What follows the first wrong answers tells nothing new.
+        for (long seed = 0; seed < 3000 && wrongs() < 20; seed++) {
             oneRun(seed);
         }
-        System.out.println(wrong == 0 ? "all answers are as due" : wrong + " answers are not as due");
-        if (wrong != 0) {
-            System.exit(1);
-        }
+        end();
     }
 }

@@ -1,81 +1,18 @@
 import java.util.NoSuchElementException;
 
 /** Each promise of the document by hand: ordinary inputs, the edges it names, and wrong inputs. */
-public final class PromiseTest {
-    private static final Class<?> BAD_INDEX = IndexOutOfBoundsException.class;
-    private static int wrong = 0;
-    private static String promise = "";
-
-    private static void due(String call, Object got, Object want) {
-        if (!want.equals(got)) {
-            wrong++;
-            System.out.println(promise + ": " + call + " answered " + got + ", due is " + want);
-        }
-    }
-
-    private static void dueThrow(String call, Class<?> want, Runnable run) {
-        Object got = "nothing";
-        try {
-            run.run();
-        } catch (RuntimeException e) {
-            got = e.getClass();
-        }
-        due(call + " throws", got, want);
-    }
-
-    /** Reads part 0 of each line and says how the accesses were. */
-    private static String reads(CacheRules x, int... lines) {
-        StringBuilder kinds = new StringBuilder();
-        for (int line : lines) {
-            kinds.append(x.access(line, 0, false));
-        }
-        return kinds.toString();
-    }
-
-    private static String linesOf(CacheRules x, int set) {
-        StringBuilder text = new StringBuilder();
-        for (int way = 0; way < x.count(13); way++) {
-            text.append(x.way(set, way, 1) == 1 ? x.way(set, way, 0) + " " : "- ");
-        }
-        return text.toString().trim();
-    }
-
-    private static String caughtLines(CacheRules x) {
-        StringBuilder text = new StringBuilder();
-        for (int k = 0; k < x.count(9); k++) {
-            text.append(x.caught(k, 0)).append(':').append(x.caught(k, 1)).append(':').append(x.caught(k, 2)).append(' ');
-        }
-        return text.toString().trim();
-    }
-
-    private static String counts(CacheRules x) {
-        StringBuilder text = new StringBuilder();
-        for (int what = 0; what <= 13; what++) {
-            text.append(x.count(what)).append(' ');
-        }
-        return text.toString().trim();
-    }
-
-    /** One set of the given width under a rule, with lines 0 .. width - 1 in ways 0 .. width - 1. */
-    private static CacheRules full(int rule, int width) {
-        CacheRules x = new CacheRules(0, width, rule, 0);
-        for (int line = 0; line < width; line++) {
-            x.access(line, 0, false);
-        }
-        return x;
-    }
-
+public final class PromiseTest extends Checks {
     private static void newObject() {
-        promise = "promise 1";
+        about = "promise 1";
         int[] setCounts = {1, 2, 4, 8, 16};
         for (int k = -10; k < 15; k++) {
             CacheRules x = new CacheRules(k, k, k, k);
             due("sets of " + k, x.count(12), setCounts[Math.floorMod(k, 5)]);
             due("ways of " + k, x.count(13), 1 + Math.floorMod(k - 1, 8));
         }
-        due("ways of the least int", new CacheRules(0, Integer.MIN_VALUE, 0, 0).count(13), 8);
-        due("ways of the greatest int", new CacheRules(0, Integer.MAX_VALUE, 0, 0).count(13), 7);
-        due("sets of the least int", new CacheRules(Integer.MIN_VALUE, 1, 0, 0).count(12), 4);
+        due("ways of the least int", new CacheRules(0, LEAST, 0, 0).count(13), 8);
+        due("ways of the greatest int", new CacheRules(0, GREATEST, 0, 0).count(13), 7);
+        due("sets of the least int", new CacheRules(LEAST, 1, 0, 0).count(12), 4);
         for (int victims = -5; victims < 10; victims++) {
             CacheRules x = new CacheRules(0, 1, 0, victims);
             reads(x, 1, 2, 3, 4, 5, 6, 7);
@@ -92,7 +29,7 @@ public final class PromiseTest {
     }
 
     private static void mode() {
-        promise = "promise 2";
+        about = "promise 2";
         CacheRules x = new CacheRules(0, 1, 0, 0);
         due("mode(true, true)", x.mode(true, true), 2);
         due("mode(true, false)", x.mode(true, false), 3);
@@ -103,7 +40,7 @@ public final class PromiseTest {
     }
 
     private static void accessKinds() {
-        promise = "promise 3";
+        about = "promise 3";
         CacheRules x = new CacheRules(1, 2, 0, 1);
         due("a miss", x.access(5, 2, false), 3);
         due("a hit", x.access(5, 2, false), 0);
@@ -124,14 +61,14 @@ public final class PromiseTest {
         due("line 9 puts 7 out, -1 out of all", x.access(9, 0, false), 3);
         due("rows at last", caughtLines(x), "7:1:0");
         due("counts", counts(x), "7 1 1 1 4 0 6 1 3 1 0 0 2 2");
-        for (int part : new int[] {-1, 4, Integer.MIN_VALUE, Integer.MAX_VALUE}) {
+        for (int part : new int[] {-1, 4, LEAST, GREATEST}) {
             dueThrow("part " + part, BAD_INDEX, () -> x.access(9, part, true));
         }
         due("counts after wrong parts", counts(x), "7 1 1 1 4 0 6 1 3 1 0 0 2 2");
     }
 
     private static void accessLocked() {
-        promise = "promise 3, locked";
+        about = "promise 3, locked";
         CacheRules x = new CacheRules(0, 1, 0, 2);
         x.access(1, 0, true);
         x.access(2, 0, false);
@@ -161,7 +98,7 @@ public final class PromiseTest {
     }
 
     private static void accessModes() {
-        promise = "promise 3, writing";
+        about = "promise 3, writing";
         CacheRules x = new CacheRules(0, 2, 0, 0);
         x.mode(true, true);
         due("through, a miss", x.access(1, 0, true), 3);
@@ -189,7 +126,7 @@ public final class PromiseTest {
     }
 
     private static void catching() {
-        promise = "promise 3, catching rows";
+        about = "promise 3, catching rows";
         CacheRules x = new CacheRules(0, 1, 0, 3);
         for (int line = 1; line <= 4; line++) {
             x.access(line, line % 4, true);
@@ -207,24 +144,24 @@ public final class PromiseTest {
     }
 
     private static void rules0to4() {
-        promise = "rule 0";
+        about = "rule 0";
         CacheRules x = full(0, 3);
         due("next", x.next(0), 0);
         x.access(0, 1, false);
         due("a part is a use", x.next(0), 1);
         x.lock(1, true);
         due("not a locked one", x.next(0), 2);
-        promise = "rule 1";
+        about = "rule 1";
         x = full(1, 3);
         reads(x, 0, 0, 3);
         due("the first that came goes", linesOf(x, 0), "3 1 2");
         due("next", x.next(0), 1);
-        promise = "rule 2";
+        about = "rule 2";
         x = full(2, 3);
         due("next", x.next(0), 2);
         reads(x, 1, 9);
         due("the last used one goes", linesOf(x, 0), "0 9 2");
-        promise = "rule 3";
+        about = "rule 3";
         x = full(3, 4);
         due("x is 1", x.next(0), 0);
         due("asking changes nothing", x.next(0), 0);
@@ -236,7 +173,7 @@ public final class PromiseTest {
         due("set", linesOf(x, 0), "10 1 2 11");
         // x is 377401575 then: 5758 of 3 is 1.
         due("third number", x.next(0), 2);
-        promise = "rule 4";
+        about = "rule 4";
         x = full(4, 3);
         reads(x, 0, 0, 1, 2);
         due("of the fewest uses the longest ago", x.next(0), 1);
@@ -250,7 +187,7 @@ public final class PromiseTest {
     }
 
     private static void rule5() {
-        promise = "rule 5";
+        about = "rule 5";
         CacheRules x = full(5, 3);
         reads(x, 0);
         due("the marked one is passed", x.next(0), 1);
@@ -277,7 +214,7 @@ public final class PromiseTest {
     }
 
     private static void rule6() {
-        promise = "rule 6";
+        about = "rule 6";
         CacheRules x = full(6, 4);
         due("next", x.next(0), 0);
         reads(x, 0);
@@ -309,7 +246,7 @@ public final class PromiseTest {
     }
 
     private static void rules7to9() {
-        promise = "rule 7";
+        about = "rule 7";
         CacheRules x = full(7, 3);
         due("only way 2 is marked", x.next(0), 0);
         reads(x, 0);
@@ -325,7 +262,7 @@ public final class PromiseTest {
         x.access(1, 1, false);
         reads(x, 0, 2);
         due("marks stay when lines are dropped", x.next(0), 0);
-        promise = "rule 8";
+        about = "rule 8";
         x = full(8, 3);
         reads(x, 0);
         due("the lowest of the oldest", x.next(0), 1);
@@ -340,7 +277,7 @@ public final class PromiseTest {
         due("the locked one is 3 still", x.next(0), 2);
         reads(x, 7);
         due("way 0 went from 1 to 2", x.next(0), 0);
-        promise = "rule 9";
+        about = "rule 9";
         x = full(9, 3);
         due("the last that came", x.next(0), 2);
         reads(x, 5);
@@ -352,7 +289,7 @@ public final class PromiseTest {
     }
 
     private static void ask() {
-        promise = "promise 4";
+        about = "promise 4";
         CacheRules x = new CacheRules(0, 2, 0, 0);
         x.access(1, 0, false);
         due("a hit", x.ask(1, 0), 0);
@@ -379,7 +316,7 @@ public final class PromiseTest {
     }
 
     private static void answer() {
-        promise = "promise 5";
+        about = "promise 5";
         CacheRules x = new CacheRules(0, 1, 0, 1);
         dueThrow("none waits", NoSuchElementException.class, () -> x.answer());
         x.ask(1, 2);
@@ -400,7 +337,7 @@ public final class PromiseTest {
     }
 
     private static void answered() {
-        promise = "promise 6";
+        about = "promise 6";
         CacheRules x = new CacheRules(0, 1, 0, 1);
         dueThrow("nothing answered", BAD_INDEX, () -> x.answered(0, 0));
         x.ask(1, 2);
@@ -431,7 +368,7 @@ public final class PromiseTest {
     }
 
     private static void lock() {
-        promise = "promise 7";
+        about = "promise 7";
         CacheRules x = new CacheRules(0, 2, 0, 2);
         due("no such line", x.lock(1, true), false);
         reads(x, 1, 2, 3);
@@ -449,7 +386,7 @@ public final class PromiseTest {
     }
 
     private static void cleaning() {
-        promise = "promise 8";
+        about = "promise 8";
         CacheRules x = new CacheRules(1, 1, 0, 2);
         x.access(1, 0, true);
         x.access(1, 3, true);
@@ -464,7 +401,7 @@ public final class PromiseTest {
         due("clean already", x.clean(3), 0);
         due("writes", x.count(7), 3);
         due("no access", x.count(0), 4);
-        promise = "promise 9";
+        about = "promise 9";
         due("nothing to clean", x.cleanAll(), 0);
         x.access(3, 0, true);
         x.access(2, 0, true);
@@ -484,9 +421,9 @@ public final class PromiseTest {
     }
 
     private static void drop() {
-        promise = "promise 10";
+        about = "promise 10";
         CacheRules x = new CacheRules(0, 2, 0, 2);
-        due("nowhere", x.drop(0), CacheRules.NONE);
+        due("nowhere", x.drop(0), NONE);
         x.access(1, 0, true);
         x.access(2, 0, true);
         x.access(2, 1, true);
@@ -499,7 +436,7 @@ public final class PromiseTest {
         x.access(3, 2, true);
         due("of a locked way", x.drop(3), 1);
         due("way", "" + x.way(0, 0, 0) + x.way(0, 0, 1) + x.way(0, 0, 2) + x.way(0, 0, 3) + x.way(0, 0, 4), "00000");
-        due("gone", x.drop(3), CacheRules.NONE);
+        due("gone", x.drop(3), NONE);
         due("unchanged", x.drop(4), 0);
         due("nothing is written", x.count(7), 0);
         due("not by the rule", x.count(8), 2);
@@ -515,7 +452,7 @@ public final class PromiseTest {
     }
 
     private static void way() {
-        promise = "promise 11";
+        about = "promise 11";
         CacheRules x = new CacheRules(2, 3, 0, 0);
         x.access(-2, 1, true);
         x.access(-2, 0, false);
@@ -529,14 +466,14 @@ public final class PromiseTest {
             due("without a line, " + what, x.way(3, 2, what), 0);
         }
         int[][] bad = {{-1, 0, 0}, {4, 0, 0}, {0, -1, 0}, {0, 3, 0}, {0, 0, -1}, {0, 0, 5},
-            {Integer.MIN_VALUE, 0, 0}, {Integer.MAX_VALUE, 2, 0}, {0, Integer.MAX_VALUE, 0}, {-1, 3, 0}};
+            {LEAST, 0, 0}, {GREATEST, 2, 0}, {0, GREATEST, 0}, {-1, 3, 0}};
         for (int[] b : bad) {
             dueThrow("way(" + b[0] + ", " + b[1] + ", " + b[2] + ")", BAD_INDEX, () -> x.way(b[0], b[1], b[2]));
         }
     }
 
     private static void caught() {
-        promise = "promise 12";
+        about = "promise 12";
         CacheRules x = new CacheRules(0, 1, 0, 2);
         dueThrow("none", BAD_INDEX, () -> x.caught(0, 0));
         x.access(-7, 3, true);
@@ -555,12 +492,12 @@ public final class PromiseTest {
     }
 
     private static void next() {
-        promise = "promise 13";
+        about = "promise 13";
         for (int rule = 0; rule < 10; rule++) {
             CacheRules x = new CacheRules(1, 2, rule, 1);
-            due("no lines", x.next(0), CacheRules.NONE);
+            due("no lines", x.next(0), NONE);
             reads(x, 1, 0, 2);
-            due("set 1 has a way without a line", x.next(1), CacheRules.NONE);
+            due("set 1 has a way without a line", x.next(1), NONE);
             int picked = x.next(0);
             due("asking again", x.next(0), picked);
             int out = x.way(0, picked, 0);
@@ -569,16 +506,16 @@ public final class PromiseTest {
             x.lock(4, true);
             due("the other one", x.next(0), 1 - picked);
             x.lock(x.way(0, 1 - picked, 0), true);
-            due("all locked", x.next(0), CacheRules.NONE);
+            due("all locked", x.next(0), NONE);
             x.drop(4);
-            due("one dropped", x.next(0), CacheRules.NONE);
+            due("one dropped", x.next(0), NONE);
             dueThrow("set 2", BAD_INDEX, () -> x.next(2));
             dueThrow("set -1", BAD_INDEX, () -> x.next(-1));
         }
     }
 
     private static void misses() {
-        promise = "promise 14";
+        about = "promise 14";
         CacheRules x = new CacheRules(0, 1, 0, 0);
         due("none yet", x.misses(1), 0);
         reads(x, 1, 2, 1, 1, 3, 2);
@@ -596,26 +533,26 @@ public final class PromiseTest {
         far.access(64, 0, false);
         far.access(1, 0, false);
         due("line 1 fell out", far.misses(64), 66);
-        for (int n : new int[] {0, 65, -1, Integer.MIN_VALUE, Integer.MAX_VALUE}) {
+        for (int n : new int[] {0, 65, -1, LEAST, GREATEST}) {
             dueThrow("misses(" + n + ")", IllegalArgumentException.class, () -> x.misses(n));
         }
     }
 
     private static void distance() {
-        promise = "promise 15";
+        about = "promise 15";
         CacheRules x = new CacheRules(0, 1, 0, 0);
-        due("nothing yet", x.distance(0), CacheRules.NONE);
+        due("nothing yet", x.distance(0), NONE);
         reads(x, 5, -6, 5);
         due("the latest", x.distance(5), 0);
         due("the one before", x.distance(-6), 1);
-        due("none", x.distance(7), CacheRules.NONE);
+        due("none", x.distance(7), NONE);
         for (int line = 100; line < 162; line++) {
             x.access(line, 0, false);
         }
         due("the 64th", x.distance(-6), 63);
         due("the 63rd", x.distance(5), 62);
         x.access(200, 0, false);
-        due("out of the last 64", x.distance(-6), CacheRules.NONE);
+        due("out of the last 64", x.distance(-6), NONE);
         due("the 64th now", x.distance(5), 63);
         x.ask(5, 0);
         due("an ask that waits is no access", x.distance(5), 63);
@@ -624,10 +561,10 @@ public final class PromiseTest {
     }
 
     private static void count() {
-        promise = "promise 16";
+        about = "promise 16";
         CacheRules x = new CacheRules(4, 8, 0, 4);
-        for (int what : new int[] {-1, 14, Integer.MIN_VALUE, Integer.MAX_VALUE}) {
-            due("count(" + what + ")", x.count(what), CacheRules.NONE);
+        for (int what : new int[] {-1, 14, LEAST, GREATEST}) {
+            due("count(" + what + ")", x.count(what), NONE);
         }
         due("sets", x.count(12), 16);
         due("ways", x.count(13), 8);
@@ -670,9 +607,6 @@ public final class PromiseTest {
         misses();
         distance();
         count();
-        System.out.println(wrong == 0 ? "all answers are as due" : wrong + " answers are not as due");
-        if (wrong != 0) {
-            System.exit(1);
-        }
+        end();
     }
 }
