@@ -527,15 +527,21 @@ public final class PromiseEdgeTest extends Checks {
     static void p10RuleStays() {
         about = "promise 10: '(What its way had of the rule's stays as it is.)'";
         CacheRules tree = full(6, 4);
+        reads(tree, 2);
         tree.drop(1);
         reads(tree, 9);
-        due("the tree still points from 3", tree.next(0), 2);
-        CacheRules lately = full(7, 3);
-        reads(lately, 0);
-        lately.drop(0);
-        lately.access(1, 0, false);
-        reads(lately, 9);
-        due("way 0 kept its mark: all were marked with way 1, which alone kept it; then way 0", lately.next(0), 2);
+        due("the tree still points from 2 to 3", tree.next(0), 3);
+        CacheRules kept = full(7, 3);
+        reads(kept, 0);
+        kept.drop(0);
+        kept.access(1, 1, false);
+        reads(kept, 9);
+        due("way 0 had its mark still: all were marked with way 1, which alone kept it", kept.next(0), 2);
+        CacheRules notSet = full(7, 3);
+        reads(notSet, 0);
+        notSet.drop(1);
+        reads(notSet, 0, 9);
+        due("way 1 had no mark still: all were marked with line 9, which alone kept it", notSet.next(0), 0);
         CacheRules round = full(5, 3);
         reads(round, 5);
         round.drop(5);
@@ -827,7 +833,7 @@ public final class PromiseEdgeTest extends Checks {
     }
 
     static void p16EachOne() {
-        about = "promise 16: 'Accesses (0) of each kind (1 to 5: kinds 0 to 4), parts fetched (6), writes (7), ..'";
+        about = "promise 16: 'Accesses (0) of each kind (1 to 5: kinds 0 to 4), parts fetched (6), writes (7)'";
         CacheRules x = new CacheRules(1, 1, 0, 2);
         due("miss", x.access(1, 0, true), 3);
         due("counts", counts(x), "1 0 0 0 1 0 1 0 0 0 0 0 2 1");
@@ -849,6 +855,21 @@ public final class PromiseEdgeTest extends Checks {
         due("counts", counts(x), "6 1 1 1 2 1 5 1 2 1 2 1 2 1");
         due("answered", x.answer(), 2);
         due("counts", counts(x), "8 1 1 1 2 3 7 1 2 1 0 0 2 1");
+    }
+
+    static void p16AsksThatWait() {
+        about = "promise 16: 'asks that wait (10), lines of these (11), sets (12), ways (13).'";
+        CacheRules x = new CacheRules(4, 8, 0, 0);
+        for (int k = 0; k < 16; k++) {
+            x.ask(k % 4, k / 4);
+        }
+        due("all that there can be", x.count(10) + " " + x.count(11) + " " + x.count(12) + " " + x.count(13), "16 4 16 8");
+        for (int left = 3; left >= 0; left--) {
+            x.answer();
+            due("left", x.count(10) + " " + x.count(11), 4 * left + " " + left);
+        }
+        CacheRules least = new CacheRules(0, 1, 0, 0);
+        due("the least", least.count(10) + " " + least.count(11) + " " + least.count(12) + " " + least.count(13), "0 0 1 1");
     }
 
     static void p16ByTheRule() {

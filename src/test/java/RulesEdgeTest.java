@@ -179,6 +179,9 @@ public final class RulesEdgeTest extends Checks {
         reads(x, 0, 0, 1, 1, 1);
         due("0 goes", goOut(x, 1), "0");
         due("the new one has none and goes", goOut(x, 2), "00");
+        reads(x, x.way(0, 0, 0), x.way(0, 0, 0));
+        due("the new one has two, the other three", x.next(0), 0);
+        goOut(x, 1);
         x.drop(1);
         reads(x, 1);
         due("dropped and come anew, none too: longest ago", x.next(0), 0);
@@ -264,6 +267,8 @@ public final class RulesEdgeTest extends Checks {
         CacheRules two = new CacheRules(1, 2, 5, 0);
         reads(two, 0, 1, 2, 3, 4);
         due("a hand for each set", two.next(0) + " " + two.next(1), "1 0");
+        reads(two, 5, 7, 9);
+        due("set 1 has its own", two.next(0) + " " + two.next(1), "1 1");
     }
 
     // Rule 6
@@ -307,6 +312,32 @@ public final class RulesEdgeTest extends Checks {
             boolean right = (way >> level) % 2 == 1;
             tree.put(path, right ? 'L' : 'R');
             path += right ? 'R' : 'L';
+        }
+    }
+
+    static void nodesBelowNodes() {
+        about = "'node 1 is the top, nodes 2 i and 2 i + 1 are below node i, the ways below the lowest ones in their order.'";
+        // After all eight came each node points to its left; a use turns the nodes above it alone.
+        int[] otherHalf = {4, 4, 4, 4, 0, 0, 0, 0};
+        int[] otherPair = {2, 2, 0, 0, 6, 6, 4, 4};
+        for (int way = 0; way < 8; way++) {
+            CacheRules x = full(6, 8);
+            reads(x, way);
+            due("behind " + way, x.next(0), otherHalf[way]);
+            reads(x, way < 4 ? 7 : 3);
+            due("behind " + way + " and the last of the other half", x.next(0), otherPair[way]);
+        }
+    }
+
+    static void whereTheBitsPoint() {
+        about = "'Picked is the way that the bits point to'";
+        for (int way = 0; way < 8; way++) {
+            CacheRules x = full(6, 8);
+            // The other way of its pair, one of the other pair of its half, one of the other half.
+            reads(x, way ^ 1, way ^ 2, way ^ 1, way ^ 2, way ^ 4);
+            due("to " + way + " or its pair", x.next(0) / 2, way / 2);
+            reads(x, way ^ 1, way ^ 2, way ^ 4);
+            due("to " + way, x.next(0), way);
         }
     }
 
@@ -373,6 +404,18 @@ public final class RulesEdgeTest extends Checks {
             reads(x, width - 2);
             due("a locked one has a mark too", x.next(0), width == 2 ? 1 : 0);
         }
+    }
+
+    static void latelyByUseOrComing() {
+        about = "'7 LATELY: a use or coming sets a way's mark'";
+        CacheRules x = full(7, 4);
+        due("3 came last", x.next(0), 0);
+        reads(x, 0);
+        due("a use of 0", x.next(0), 1);
+        due("a coming into 1, then into 2, which is the last one", goOut(x, 2), "12");
+        due("2 alone is marked", x.next(0), 0);
+        x.access(0, 1, false);
+        due("a part is a use", x.next(0), 1);
     }
 
     static void lockedLoseTheirMarksToo() {

@@ -80,6 +80,21 @@ public final class TermsEdgeTest extends Checks {
         due("all four", wayOf(x, 0, 0), "7:1:15:15:0");
     }
 
+    static void aWayMayBeLocked() {
+        about = "'a way may be LOCKED.'";
+        CacheRules x = new CacheRules(0, 2, 0, 1);
+        writes(x, 1, 0);
+        reads(x, 2);
+        lockAll(x, 1);
+        x.access(1, 0, false);
+        x.access(1, 1, true);
+        x.clean(1);
+        x.cleanAll();
+        reads(x, 3, 4, 2);
+        due("it stays so while its line is there", wayOf(x, 0, 0), "1:1:3:0:1");
+        due("the other way is free", wayOf(x, 0, 1), "2:1:1:0:0");
+    }
+
     static void whatIsNotThereIsNotChanged() {
         about = "'(one that is not there is not changed)'";
         CacheRules x = new CacheRules(0, 1, 0, 0);
