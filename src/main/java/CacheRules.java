@@ -587,6 +587,23 @@ public final class CacheRules {
 
         /** What picking the chosen way changes in the rule itself. */
         abstract void settle(int set, int way, boolean[] locked);
+
+        /** On and round from a way: the first free one without a mark; when all have one, the first free one. */
+        final int firstUnmarked(int set, int from, boolean[] mark, boolean[] locked) {
+            int firstFree = NONE;
+            for (int step = 0; step < width; step++) {
+                int way = from + step < width ? from + step : from + step - width;
+                if (!locked[set * width + way]) {
+                    if (!mark[set * width + way]) {
+                        return way;
+                    }
+                    if (firstFree == NONE) {
+                        firstFree = way;
+                    }
+                }
+            }
+            return firstFree;
+        }
     }
 
     /** Rules 0, 1, 2, 4 and 9: by the times of uses and comings. */
@@ -718,34 +735,17 @@ public final class CacheRules {
             mark[set * width + way] = false;
         }
 
-        private int wayFromHand(int set, int step) {
-            int way = hand[set] + step;
-            return way < width ? way : way - width;
-        }
-
         @Override
         int choose(int set, boolean[] locked) {
             // When all are marked a whole round takes the marks away: then it is the first that is free.
-            int firstFree = NONE;
-            for (int step = 0; step < width; step++) {
-                int way = wayFromHand(set, step);
-                if (!locked[set * width + way]) {
-                    if (!mark[set * width + way]) {
-                        return way;
-                    }
-                    if (firstFree == NONE) {
-                        firstFree = way;
-                    }
-                }
-            }
-            return firstFree;
+            return firstUnmarked(set, hand[set], mark, locked);
         }
 
         @Override
         void settle(int set, int way, boolean[] locked) {
             boolean wholeRound = mark[set * width + way];
             for (int step = 0; step < width; step++) {
-                int passed = wayFromHand(set, step);
+                int passed = hand[set] + step < width ? hand[set] + step : hand[set] + step - width;
                 if (passed == way && !wholeRound) {
                     break;
                 }
@@ -841,18 +841,7 @@ public final class CacheRules {
 
         @Override
         int choose(int set, boolean[] locked) {
-            int firstFree = NONE;
-            for (int way = 0; way < width; way++) {
-                if (!locked[set * width + way]) {
-                    if (!mark[set * width + way]) {
-                        return way;
-                    }
-                    if (firstFree == NONE) {
-                        firstFree = way;
-                    }
-                }
-            }
-            return firstFree;
+            return firstUnmarked(set, 0, mark, locked);
         }
 
         @Override
